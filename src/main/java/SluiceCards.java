@@ -835,13 +835,8 @@ public final class SluiceCards {
 
     /** A river as it is now or as it might be: what would come of it by this rain or that. */
     private static final class Trial {
-        int reaches = 0;
-        int span = 0;
-        int sum = 0;
-        int odds = 0;
-        final int[] bank = new int[MOST_REACHES];
-        final int[] mill = new int[MOST_REACHES];
-        final Card[] cards = new Card[MOST_REACHES];
+        private final River river = new River();
+        private final Card[] cards = new Card[MOST_REACHES];
         /** The reaches that keep their boards, as bits. */
         int asleep = 0;
         /** Whether the bell never rings. */
@@ -853,14 +848,8 @@ public final class SluiceCards {
 
         /** All as it is now. */
         void begin(World world) {
-            River river = world.river;
-            reaches = Math.max(0, Math.min(river.reaches, MOST_REACHES));
-            span = river.span;
-            sum = river.sum;
-            odds = river.odds;
-            copyRow(river.bank, bank);
-            copyRow(river.mill, mill);
-            for (int i = 0; i < MOST_REACHES; i++) cards[i] = i < reaches ? world.cardOf(river.hung[i]) : null;
+            river.becomes(world.river);
+            for (int i = 0; i < MOST_REACHES; i++) cards[i] = i < river.reaches ? world.cardOf(river.hung[i]) : null;
             asleep = 0;
             silent = false;
             start.becomes(river.water);
@@ -882,21 +871,21 @@ public final class SluiceCards {
         void fixBoards(int row) {
             asleep = (1 << MOST_REACHES) - 1;
             int rest = row;
-            for (int i = Math.min(reaches, MOST_REACHES) - 1; i >= 0; i--) {
+            for (int i = Math.min(river.reaches, MOST_REACHES) - 1; i >= 0; i--) {
                 start.boards[i] = rest & 3;
                 rest >>= 2;
             }
         }
 
-        void raiseBanks(River river, int more) {
-            for (int i = 0; i < MOST_REACHES; i++) bank[i] = Math.min(MOST_BANK, river.bank[i] + more);
+        void raiseBanks(River told, int more) {
+            for (int i = 0; i < MOST_REACHES; i++) river.bank[i] = Math.min(MOST_BANK, told.bank[i] + more);
         }
 
         /** Whether by no rain of span and sum a bank is gone over; if by some, the waters keep the shortest. */
         boolean isSafe() {
-            for (int hours = 1; hours <= span && hours <= MOST_HOURS; hours++) {
+            for (int hours = 1; hours <= river.span && hours <= MOST_HOURS; hours++) {
                 failingHours = hours;
-                if (goesOver(start, hours, sum)) return false;
+                if (goesOver(start, hours, river.sum)) return false;
             }
             failingHours = 0;
             return true;
@@ -914,7 +903,7 @@ public final class SluiceCards {
             if (to == null || hours < 1) return false;
             setBoards(from, to);
             if (hours == 1 && !mayGoOver(to, left)) return false;
-            for (int rain = 0; rain < 1 << reaches; rain++) {
+            for (int rain = 0; rain < 1 << river.reaches; rain++) {
                 int fallen = Integer.bitCount(rain);
                 if (fallen > left) continue;
                 int over = letFall(from, to, rain);
@@ -929,8 +918,8 @@ public final class SluiceCards {
         /** Spares the last hour's rains, where most of the search's time would go. */
         private boolean mayGoOver(Water to, int left) {
             int most = left > 0 ? 1 : 0;
-            for (int i = 0; i < reaches && i < MOST_REACHES; i++) {
-                if (to.beforeRain[i] + most > bank[i]) return true;
+            for (int i = 0; i < river.reaches && i < MOST_REACHES; i++) {
+                if (to.beforeRain[i] + most > river.bank[i]) return true;
             }
             return false;
         }
@@ -944,9 +933,9 @@ public final class SluiceCards {
             Water to = from.next;
             if (to == null || hours < 1) return 0;
             setBoards(from, to);
-            long all = powerOfTen(reaches * (hours - 1));
+            long all = powerOfTen(river.reaches * (hours - 1));
             long weight = 0;
-            for (int rain = 0; rain < 1 << reaches; rain++) {
+            for (int rain = 0; rain < 1 << river.reaches; rain++) {
                 int over = letFall(from, to, rain);
                 boolean comes = (thirst ? dryMills(to) : over) != 0;
                 weight += weightOf(rain) * (comes ? all : weigh(to, hours - 1, thirst));
@@ -956,7 +945,7 @@ public final class SluiceCards {
 
         private long weightOf(int rain) {
             long weight = 1;
-            for (int i = 0; i < reaches; i++) weight *= (rain >> i & 1) == 1 ? odds : 10 - odds;
+            for (int i = 0; i < river.reaches; i++) weight *= (rain >> i & 1) == 1 ? river.odds : 10 - river.odds;
             return weight;
         }
 
@@ -980,9 +969,9 @@ public final class SluiceCards {
         /** The first half of an hour: all boards are set, and the water runs. */
         private void setBoards(Water from, Water to) {
             sight.hour = from.hour;
-            sight.bell = !silent && from.level[0] == bank[0] ? 1 : 0;
+            sight.bell = !silent && from.level[0] == river.bank[0] ? 1 : 0;
             int runsIn = 0;
-            for (int i = 0; i < reaches && i < MOST_REACHES; i++) {
+            for (int i = 0; i < river.reaches && i < MOST_REACHES; i++) {
                 int boards = from.boards[i];
                 Card card = cards[i];
                 if (card != null && (asleep >> i & 1) == 0) {
@@ -1001,10 +990,10 @@ public final class SluiceCards {
         /** The second half: the rain falls; the reaches that went over, as bits. */
         private int letFall(Water from, Water to, int rain) {
             int over = 0;
-            for (int i = 0; i < reaches && i < MOST_REACHES; i++) {
+            for (int i = 0; i < river.reaches && i < MOST_REACHES; i++) {
                 int level = to.beforeRain[i] + (rain >> i & 1);
-                if (level > bank[i]) {
-                    level = bank[i];
+                if (level > river.bank[i]) {
+                    level = river.bank[i];
                     over |= 1 << i;
                 }
                 int before = from.level[i];
@@ -1016,15 +1005,15 @@ public final class SluiceCards {
 
         int dryMills(Water water) {
             int dry = 0;
-            for (int i = 0; i < reaches && i < MOST_REACHES; i++) {
-                if (water.level[i] < mill[i]) dry |= 1 << i;
+            for (int i = 0; i < river.reaches && i < MOST_REACHES; i++) {
+                if (water.level[i] < river.mill[i]) dry |= 1 << i;
             }
             return dry;
         }
 
         int sumOfLevels() {
             int levels = 0;
-            for (int i = 0; i < reaches && i < MOST_REACHES; i++) levels += start.level[i];
+            for (int i = 0; i < river.reaches && i < MOST_REACHES; i++) levels += start.level[i];
             return levels;
         }
     }

@@ -102,6 +102,16 @@ public final class HoldsTest {
         check.due("fails(0)", z.fails(0), 2);
         z.hang(1, Check.card(z, 0, 1, "0 if l=0"));
         check.due("fails(-1)", z.fails(-1), -5);
+        // reach 0 lets 3 out in hour 2, if it did not rise before: only then does rain below it go over
+        SluiceCards late = river("reach 9 0 3;reach 3 0 0;sum 1");
+        hang(late, 0, 1, 0, "0 if h<2;3 if w<2");
+        int[] last = {3, 0, 0, 2};
+        for (int i = -1; i < 3; i++) check.due("fails(" + i + ")", late.fails(i), last[i + 1]);
+        // and the other way: it must rise first
+        SluiceCards first = river("reach 9 0 3;reach 3 0 0;sum 3");
+        hang(first, 0, 1, 0, "3 if h=2&w=2");
+        int[] rising = {3, 0, 1, 2};
+        for (int i = -1; i < 3; i++) check.due("fails(" + i + ")", first.fails(i), rising[i + 1]);
     }
 
     private static void promise16Fixed() {
@@ -126,6 +136,10 @@ public final class HoldsTest {
         check.due("fixed(-1)", two.fixed(-1), 12);
         check.due("fixed(0)", two.fixed(0), 1);
         check.due("fixed(1)", two.fixed(1), 0);
+        SluiceCards below = river("reach 9 0 0;reach 3 0 3;span 1");
+        hang(below, 1, 0, 3, "0 if l=0");
+        check.due("fixed(-1) in spite of a card below", below.fixed(-1), 12);
+        check.due("fixed(1)", below.fixed(1), 1);
     }
 
     private static void promise17Found() {
@@ -148,6 +162,10 @@ public final class HoldsTest {
         check.due("found(1), at both reaches", two.found(1), -5);
         two.hang(0, -1);
         check.due("found(1), at one", two.found(1), 1);
+        SluiceCards most = river("reach 9 0 9;reach 3 0 3;sum 0");
+        hang(most, 0, 0, 3, "0 if l=0");
+        hang(most, 1, 0, 0, "0 if l=0");
+        check.due("found(1), as much as comes", most.found(1), 3);
     }
 
     private static void promise18Lines() {
@@ -191,6 +209,9 @@ public final class HoldsTest {
         check.due("holds()", x.holds(), 1);
         // 2 0 2: holds; 1 0 1: goes over in hour 1; 1 2 1: holds
         check.due("lines(3)", x.lines(3), 2);
+        x.level(0, 3);
+        hang(x, 0, 5, 0, "1 if l=0;0 if l=0;0 if l=0");
+        check.due("lines(4): without the first all goes to the others' turns", x.lines(4), 1);
     }
 
     private static void promise19Drunk() {
@@ -222,6 +243,16 @@ public final class HoldsTest {
         hang(either, 2, 0, 0, "0 if l=0");
         check.due("drunk(0)", either.drunk(0), 5);
         check.due("drunk(1)", either.drunk(1), 7);
+        // BOARDS are 1 above and 0 below: each alone may stay so, both together would fill the lower reach
+        SluiceCards tie = river("reach 9 0 9;reach 3 0 0;span 1;sum 0");
+        hang(tie, 0, 0, 1, "0 if l=0");
+        hang(tie, 1, 0, 0, "0 if l=0");
+        tie.hour(0);
+        tie.hang(0, 1);
+        tie.hang(1, 0);
+        tie.level(1, 3);
+        check.due("drunk(0)", tie.drunk(0), 3);
+        check.due("drunk(1), of several the least", tie.drunk(1), 1);
     }
 
     private static void promise20Raised() {

@@ -152,6 +152,13 @@ public final class HoursTest {
         }
         x.hang(1, -1);
         check.due("without a card as they were", x.boards(1), 3);
+        Check.card(x, 3, 3, "0 if l<9");
+        x.hang(2, 3);
+        int[] down = {2, 1, 0, 0};
+        for (int hour = 0; hour < 4; hour++) {
+            check.due("SLOW down", x.boards(2), down[hour]);
+            x.hour(0);
+        }
     }
 
     private static void promise11Hour() {
@@ -259,6 +266,11 @@ public final class HoursTest {
         two.rain(-1);
         two.rain(6);
         check.due("REACH 1 alone goes over", two.run(0), 1);
+        Check.river(two, "reach 4 0 2;reach 4 3 2");
+        check.due("MILL 1 alone is dry", two.run(1), -5);
+        two.rain(-1);
+        two.rain(1);
+        check.due("MILL 1 alone is dry", two.run(1), 1);
     }
 
     private static void promise13RunBeyond99() {
