@@ -114,9 +114,10 @@ public final class ActsTest {
         x.hour(3);
         Check.feed(x, "1 if l=1");
         x.image();
-        int[] before = all(x);
-        Check.card(x, 3, 3, ";3 if h=1");
         x.act(0, 2, 7);
+        long[] before = Look.at(x);
+        int made = x.run(2);
+        Check.card(x, 3, 3, ";3 if h=1");
         x.hang(0, -1);
         x.hang(1, 1);
         x.level(0, 0);
@@ -126,8 +127,7 @@ public final class ActsTest {
         Check.river(x, "reach 9 9 9;span 1;sum 1;odds 1");
         Check.feed(x, "2 if l=2;");
         check.due("undo()", x.undo(), 1);
-        int[] after = all(x);
-        for (int i = 0; i < before.length; i++) check.due("row " + i, after[i], before[i]);
+        check.dueRow("all that can be asked", Look.at(x), before);
         check.due("the trace stays", x.count(4), 4);
         check.due("the trace stays", x.trace(0), 3);
         check.due("what hangs", x.hang(0, 0), 0);
@@ -136,22 +136,7 @@ public final class ActsTest {
         // the image holds on, and what was done since is gone again
         check.due("undo()", x.undo(), 1);
         check.due("count(3)", x.count(3), 8);
-        check.due("run(2)", x.run(2), before[before.length - 1]);
-    }
-
-    private static int[] all(SluiceCards x) {
-        int[] row = new int[32];
-        int n = 0;
-        for (int reach = 0; reach < 3; reach++) {
-            for (int what = 0; what < 5; what++) row[n++] = x.of(reach, what);
-            row[n++] = x.boards(reach);
-        }
-        for (int what = 0; what < 5; what++) row[n++] = x.stream(what);
-        for (int what = 0; what < 4; what++) row[n++] = x.count(what);
-        for (int what = 0; what < 3; what++) row[n++] = x.told(0, what);
-        row[n++] = x.told(1, 0);
-        row[31] = x.run(2);
-        return row;
+        check.due("run(2)", x.run(2), made);
     }
 
     private static void promise27CardsMadeAfterwards() {

@@ -17,6 +17,17 @@ final class Check {
         System.out.println(about + ": " + call + " answered " + got + ", due is " + want);
     }
 
+    /** Two rows of answers, the same one by one. */
+    void dueRow(String call, long[] got, long[] want) {
+        if (java.util.Arrays.equals(got, want)) {
+            right++;
+            return;
+        }
+        int at = java.util.Arrays.mismatch(got, want);
+        wrong++;
+        System.out.println(about + ": " + call + ": the rows part at " + at);
+    }
+
     /** Prints what came out; ends with exit code 1 if an answer was wrong. */
     void end(String test) {
         System.out.println(test + ": " + right + " answers as due, " + wrong + " not");
@@ -35,6 +46,12 @@ final class Check {
         long w = 0;
         for (int k = from; k < till; k++) w = w << 8 | text.charAt(k);
         return w;
+    }
+
+    static String times(String text, int n) {
+        StringBuilder b = new StringBuilder();
+        for (int k = 0; k < n; k++) b.append(text);
+        return b.toString();
     }
 
     static int river(SluiceCards x, String text) {

@@ -354,7 +354,7 @@ public final class HoldsTest {
         hang(x, 1, 4, 1, "2 if l>3&c=0");
         hang(x, 2, 6, 1, "3 if l=0;1 if l=1");
         x.hour(5);
-        int[] before = all(x);
+        long[] before = Look.at(x);
         for (int k = 0; k < 2; k++) {
             x.holds();
             x.fails(-1);
@@ -367,23 +367,7 @@ public final class HoldsTest {
             x.same(k);
             x.run(k);
             x.boards(k);
-            int[] after = all(x);
-            for (int i = 0; i < before.length; i++) check.due("row " + i, after[i], before[i]);
+            check.dueRow("all behind what was asked", Look.at(x), before);
         }
-    }
-
-    private static int[] all(SluiceCards x) {
-        int[] row = new int[32];
-        int n = 0;
-        for (int reach = 0; reach < 3; reach++) {
-            for (int what = 0; what < 5; what++) row[n++] = x.of(reach, what);
-            row[n++] = x.boards(reach);
-            row[n++] = x.told(reach, 1);
-            row[n++] = x.told(reach, 2);
-        }
-        for (int what = 0; what < 5; what++) row[n++] = x.stream(what);
-        row[n++] = x.count(3);
-        row[n++] = x.holds();
-        return row;
     }
 }

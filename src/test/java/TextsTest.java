@@ -16,12 +16,6 @@ public final class TextsTest {
         check.end("TextsTest");
     }
 
-    private static String times(String text, int n) {
-        StringBuilder b = new StringBuilder();
-        for (int k = 0; k < n; k++) b.append(text);
-        return b.toString();
-    }
-
     private static void constants() {
         check.about("the constants");
         check.due("NONE", SluiceCards.NONE, -1);
@@ -66,7 +60,7 @@ public final class TextsTest {
 
     private static void promise3RiverTexts() {
         check.about("promise 3");
-        String reach = "reach 1 1 1", twelve = reach + times(";sum 1", 11);
+        String reach = "reach 1 1 1", twelve = reach + Check.times(";sum 1", 11);
         Object[][] rows = {
             {"", -10}, {reach, 1}, {"reach 9 9 9", 1}, {reach + ";" + reach, 2}, {reach + ";" + reach + ";" + reach, 3},
             {"span 2;" + reach + ";odds 0;sum 0", 1},
@@ -74,8 +68,8 @@ public final class TextsTest {
             {reach + ";" + reach + ";" + reach + ";" + reach, -46}, {reach + ";" + reach + ";" + reach + ";r", -46},
             {reach + ";" + reach + ";sum 1;" + reach + ";x", -10 - 42},
             // no reach
-            {"span 2", -16}, {"span 2;sum 1", -22}, {times("sum 1;", 11) + "sum 1", -10 - 71},
-            {times("sum 1;", 11) + reach, 1},
+            {"span 2", -16}, {"span 2;sum 1", -22}, {Check.times("sum 1;", 11) + "sum 1", -10 - 71},
+            {Check.times("sum 1;", 11) + reach, 1},
             // twelve clauses, and one more
             {twelve, 1}, {twelve + ";", -10 - 77}, {twelve + ";sum 1", -10 - 77},
             // words
@@ -152,8 +146,8 @@ public final class TextsTest {
         check.about("promise 4");
         String line = "1 if l=1";
         Object[][] rows = {
-            {"", -10}, {line, 0}, {"0 if h<0", 0}, {"3 if w>9", 0}, {"2 if c=1", 0}, {line + times(";" + line, 5), 0},
-            {line + times(";" + line, 6), -10 - 53}, {line + times(";" + line, 5) + ";", -10 - 53}, {line + ";", -19},
+            {"", -10}, {line, 0}, {"0 if h<0", 0}, {"3 if w>9", 0}, {"2 if c=1", 0}, {line + Check.times(";" + line, 5), 0},
+            {line + Check.times(";" + line, 6), -10 - 53}, {line + Check.times(";" + line, 5) + ";", -10 - 53}, {line + ";", -19},
             {"4 if l=1", -10}, {"1if l=1", -11}, {"1 if", -14}, {"1 if ", -15}, {"1 If l=1", -12}, {"1  if l=1", -12}, {"1 if  l=1", -15}, {" " + line, -10},
             {"1 if z=1", -15}, {"1 if l", -16}, {"1 if l!1", -16}, {"1 if l=", -17}, {"1 if l=x", -17}, {"1 if l=12", -18}, {"1 if l=1 ", -18},
             {"1 if l<=1", -17}, {"1 if l=1&", -19}, {"1 if l=1&&", -19}, {"1 if l=1|h=1&w=1", 0}, {"1 if |l=1", -15}, {"1 if l=1l=1", -18},
@@ -195,7 +189,7 @@ public final class TextsTest {
     private static void promise5Told() {
         check.about("promise 5");
         SluiceCards x = new SluiceCards();
-        for (int kind = 0; kind < 7; kind++) Check.card(x, kind, kind % 4, "1 if l=1" + times(";2 if h=2", kind % 6));
+        for (int kind = 0; kind < 7; kind++) Check.card(x, kind, kind % 4, "1 if l=1" + Check.times(";2 if h=2", kind % 6));
         for (int kind = 0; kind < 7; kind++) {
             check.due("KIND", x.told(kind, 0), kind);
             check.due("v", x.told(kind, 1), kind % 4);
