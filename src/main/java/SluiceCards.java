@@ -364,7 +364,7 @@ public final class SluiceCards {
             copyRow(other.tape, tape);
             bytes = other.bytes;
             river.becomes(other.river);
-            System.arraycopy(other.cards, 0, cards, 0, Math.min(other.cards.length, cards.length));
+            for (int k = 0; k < other.cards.length && k < cards.length; k++) cards[k] = other.cards[k];
             cardCount = other.cardCount;
             copyRow(other.toldRain, toldRain);
             toldHours = other.toldHours;

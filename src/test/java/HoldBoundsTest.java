@@ -158,6 +158,7 @@ public final class HoldBoundsTest {
         failsFewestHours();
         failsFirstAsARow();
         failsWithinTheSum();
+        failsByRainOnAll();
     }
 
     private static void failsBounds() {
@@ -209,6 +210,22 @@ public final class HoldBoundsTest {
         SluiceCards x = river("reach " + bank + " 0 " + bank);
         hang(x, 0, 1, 0, text);
         for (int i = -1; i <= 2; i++) check.due(text + ": fails(" + i + ")", x.fails(i), due[i + 1]);
+    }
+
+    private static void failsByRainOnAll() {
+        check.about("FAILS: .. of several the first as a row of bits (HOUR by HOUR, each as a number)");
+        // all runs down into a last REACH that keeps it: what falls on REACH 0 is there two HOURS later, on 1 one HOUR later
+        int[][] due = {{2, 2, 4, -5}, {2, 6, 4, -5}, {3, 1, 6, 4}, {3, 3, 6, 4}, {3, 7, 6, 4}};
+        for (int bank = 1; bank <= 5; bank++) {
+            for (int sum = 0; sum <= 9; sum++) {
+                SluiceCards x = river("reach 9 0 0;reach 9 0 0;reach " + bank + " 0 0;sum " + sum);
+                for (int reach = 0; reach < 2; reach++) hang(x, reach, 0, 3, NEVER);
+                boolean hold = sum <= bank;
+                String at = " of a BANK " + bank + ", sum " + sum;
+                check.due("holds()" + at, x.holds(), hold ? 1 : 0);
+                for (int i = -1; i < 3; i++) check.due("fails(" + i + ")" + at, x.fails(i), hold ? -5 : due[bank - 1][i + 1]);
+            }
+        }
     }
 
     private static void failsWithinTheSum() {
@@ -497,10 +514,12 @@ public final class HoldBoundsTest {
         for (int bank = 1; bank <= 9; bank++) {
             for (int span = 1; span <= 3; span++) {
                 SluiceCards x = river("reach " + bank + " 0 " + bank + ";span " + span);
-                check.due("BANK " + bank + ", span " + span, x.raised(), bank + span > 9 ? -5 : span);
-                x.level(0, bank - 1);
-                check.due("BANK " + bank + ", span " + span + ", room for 1", x.raised(), bank + span > 10 ? -5 : span - 1);
-                check.due("BANK stays", x.of(0, 1), bank);
+                for (int level = 0; level <= bank; level++) {
+                    x.level(0, level);
+                    int due = level + span > 9 ? -5 : Math.max(0, level + span - bank);
+                    check.due("BANK " + bank + ", LEVEL " + level + ", span " + span, x.raised(), due);
+                    check.due("BANK stays", x.of(0, 1), bank);
+                }
             }
         }
         // two run in each HOUR: 1 and 6 and the sum must be within a BANK of 9 at most

@@ -3,6 +3,7 @@ import com.sun.source.util.*;
 import java.io.File;
 import java.util.*;
 import javax.lang.model.element.*;
+import javax.lang.model.type.*;
 import javax.tools.*;
 
 /** What of ../shared/LANGUAGE.md can be told from the source alone: forbidden words, members, sizes, depth of calls. */
@@ -10,6 +11,11 @@ public final class LanguageTest {
     private static final Set<String> FACE = new TreeSet<>(Arrays.asList(("feed river card told hang of stream level boards hour rain run holds fails"
         + " fixed found lines drunk raised mean same act trace as image undo count").split(" ")));
     private static final Set<String> CONSTANTS = new TreeSet<>(Arrays.asList("NONE", "BAD", "STATE", "FULL", "NO"));
+    /** The library, as rule 4 tells it, as far as a class like this may want it; Math, Integer and Long are looked at apart. */
+    private static final Set<String> LIBRARY = new TreeSet<>(Arrays.asList(("String.length String.charAt String.isEmpty String.equals String.indexOf"
+        + " String.substring String.toCharArray StringBuilder.append StringBuilder.charAt StringBuilder.setCharAt StringBuilder.setLength"
+        + " StringBuilder.deleteCharAt StringBuilder.reverse StringBuilder.length StringBuilder.toString System.arraycopy Arrays.copyOf"
+        + " Arrays.copyOfRange Arrays.fill").split(" ")));
     private static final int MOST_LINES = 60, MOST_PARAMETERS = 7, MOST_CLASSES = 12, MOST_FIELDS = 20, MOST_DEEP = 8;
 
     private final List<String> faults = new ArrayList<>();
@@ -96,6 +102,28 @@ public final class LanguageTest {
         return all;
     }
 
+    /** Whether a type is a number's, a text's, one of the class's own, or an array that rule 3 lets stand. */
+    private static boolean isAllowed(TypeMirror type) {
+        if (type.getKind() == TypeKind.ARRAY) {
+            TypeMirror part = ((ArrayType) type).getComponentType();
+            return isNumbers(type) || isOwn(part) || part.getKind() == TypeKind.ARRAY && isNumbers(part);
+        }
+        return type.getKind().isPrimitive() || type.getKind() == TypeKind.VOID || isOwn(type) || isText(type)
+            || type.toString().equals("java.lang.StringBuilder");
+    }
+
+    private static boolean isNumbers(TypeMirror type) {
+        return type.getKind() == TypeKind.ARRAY && ((ArrayType) type).getComponentType().getKind().isPrimitive();
+    }
+
+    private static boolean isOwn(TypeMirror type) {
+        return type.getKind() == TypeKind.DECLARED && type.toString().startsWith("SluiceCards");
+    }
+
+    private static boolean isText(TypeMirror type) {
+        return type.toString().equals("java.lang.String");
+    }
+
     private final class Words extends TreePathScanner<Void, Void> {
         private String method = null;
         private int nesting = 0;
@@ -176,10 +204,60 @@ public final class LanguageTest {
             if (it.getEnclosingElement().toString().startsWith("SluiceCards")) calls.get(method).add(nameOf(it));
         }
 
+        private TypeMirror typeOf(Tree t) {
+            return trees.getTypeMirror(new TreePath(getCurrentPath(), t));
+        }
+
+        private TypeMirror typeOfReceiver(MethodInvocationTree t) {
+            TreePath select = new TreePath(getCurrentPath(), t.getMethodSelect());
+            ExpressionTree receiver = t.getMethodSelect() instanceof MemberSelectTree ? ((MemberSelectTree) t.getMethodSelect()).getExpression() : null;
+            return receiver == null ? trees.getTypeMirror(select) : trees.getTypeMirror(new TreePath(select, receiver));
+        }
+
+        /** Rule 4: no library but what it lists, over arrays of numbers alone. */
+        private void lookAtLibrary(MethodInvocationTree t, Element it) {
+            if (it == null) {
+                fault(t, "what is called is not known");
+                return;
+            }
+            String where = it.getEnclosingElement().getSimpleName().toString(), name = it.getSimpleName().toString();
+            if (it.getEnclosingElement().toString().startsWith("SluiceCards") || name.equals("<init>")) return;
+            if (name.equals("clone")) {
+                if (!isNumbers(typeOfReceiver(t))) fault(t, "clone of what is no array of numbers");
+                return;
+            }
+            boolean counts = where.equals("Math") || where.equals("Integer") || where.equals("Long");
+            if (counts ? !it.getModifiers().contains(Modifier.STATIC) || name.endsWith("Exact") : !LIBRARY.contains(where + "." + name)) {
+                fault(t, "the library: " + where + "." + name);
+            }
+            for (ExpressionTree each : t.getArguments()) {
+                TypeMirror type = typeOf(each);
+                if (type.getKind() == TypeKind.ARRAY && !isNumbers(type)) fault(t, where + "." + name + " over " + type);
+            }
+        }
+
+        @Override public Void visitVariable(VariableTree t, Void v) {
+            TypeMirror type = trees.getElement(getCurrentPath()).asType();
+            if (!isAllowed(type)) fault(t, "a variable of type " + type);
+            return super.visitVariable(t, v);
+        }
+
+        @Override public Void visitBinary(BinaryTree t, Void v) {
+            boolean text = isText(typeOf(t.getLeftOperand())) || isText(typeOf(t.getRightOperand()));
+            if (text) fault(t, "texts joined or compared by " + t.getKind());
+            return super.visitBinary(t, v);
+        }
+
+        @Override public Void visitInstanceOf(InstanceOfTree t, Void v) {
+            if (!isOwn(trees.getTypeMirror(new TreePath(getCurrentPath(), t.getType())))) fault(t, "instanceof");
+            return super.visitInstanceOf(t, v);
+        }
+
         @Override public Void visitMethodInvocation(MethodInvocationTree t, Void v) {
             called(trees.getElement(getCurrentPath()));
+            lookAtLibrary(t, trees.getElement(getCurrentPath()));
             String what = t.getMethodSelect().toString();
-            if (what.matches("(Math|Integer|Long)\\..*Exact") || what.matches(".*\\.(equals|hashCode|toString|getClass|format)")) fault(t, what);
+            if (what.matches(".*\\.(equals|hashCode|toString|getClass|format)")) fault(t, what);
             return super.visitMethodInvocation(t, v);
         }
 

@@ -382,6 +382,7 @@ public final class TapeBoundsTest {
     private static void newestRiver() {
         newestTellsAll();
         newestLongerOrShorter();
+        newestAsIfTheFirst();
         theOneThatHeldHolds();
         faultyWithoutAnother();
     }
@@ -415,6 +416,33 @@ public final class TapeBoundsTest {
         check.due("CARDS stay", x.count(1), 2);
         check.due("v of CARD 0", x.told(0, 1), 2);
         check.due("RAIN falls: 4 and 2, and 1 and 2", x.run(2), 9);
+    }
+
+    /** Three cards and two hours of rain told; a river ahead of the newest one, under way with cards at all reaches, or none. */
+    private static SluiceCards newestBehind(String older, String newest) {
+        SluiceCards x = new SluiceCards();
+        for (int k = 0; k < 3; k++) Check.card(x, 2 * k, k, "3 if w=2|c=1;1 if h>0");
+        x.rain(7);
+        x.rain(5);
+        if (!older.isEmpty()) {
+            check.due("river() of " + older, Check.river(x, older), 3);
+            for (int reach = 0; reach < 3; reach++) x.hang(reach, reach);
+            for (int k = 0; k < 4; k++) x.hour(7);
+        }
+        check.due("river() of " + newest, Check.river(x, newest), newest.split("reach").length - 1);
+        return x;
+    }
+
+    private static void newestAsIfTheFirst() {
+        check.about("The newest RIVER holds: nothing of one that was longer is left");
+        String[] olders = {"reach 1 9 1;reach 1 9 1;reach 1 9 1;odds 9;sum 1;span 1", "reach 9 9 0;reach 9 9 0;reach 9 9 0;odds 1;sum 0;span 2"};
+        String[] newests = {"reach 4 0 2", "reach 9 2 9", "reach 5 0 1;reach 5 1 4", "span 2;reach 9 0 0;reach 1 0 0;sum 3", "reach 3 1 3;reach 2 0 0;reach 3 0 1"};
+        for (String older : olders) {
+            for (String newest : newests) {
+                check.dueRow(newest + " behind " + older, Look.at(newestBehind(older, newest)), Look.at(newestBehind("", newest)));
+                check.dueRow(newest + " behind " + older + ", into it", Look.into(newestBehind(older, newest)), Look.into(newestBehind("", newest)));
+            }
+        }
     }
 
     private static void newestLongerOrShorter() {
